@@ -440,7 +440,7 @@ public final class KeyKeepers {
         if (counting.sets == 0) {
             return NONE;
         }
-        counting.choose(now.everybody());
+        counting.choose(now);
         return what == 0 ? counting.bestGroup : counting.bestLeft;
     }
 
@@ -1455,7 +1455,6 @@ public final class KeyKeepers {
                 asked[p] = 0;
             }
             restOut = 0;
-            restRounds = 0;
             boolean changes = true;
             for (int round = 1; round <= MOST_ROUNDS && changes; round++) {
                 changes = false;
@@ -1542,7 +1541,6 @@ public final class KeyKeepers {
             aheadGoings.copyFrom(goings);
             done = 0;
             found = NONE;
-            stoppedAt = NONE;
             for (int clause = 0; clause < text.clauses; clause++) {
                 if (!obeysClause(prison, goings, text, clause, machine)) {
                     prison.copyFrom(aheadPrison);
@@ -1760,7 +1758,7 @@ public final class KeyKeepers {
         /** Of a hand and the one who keeps the WATCH behind it: what all behind that costs, in how many ways. */
         private final int[] leastBehind = new int[HANDS * PEOPLE_ROOM];
         private final int[] waysBehind = new int[HANDS * PEOPLE_ROOM];
-        private final int[] price = new int[PEOPLE_ROOM * WATCHES * 2];
+        private final int[] price = new int[WATCHES * 2 * PEOPLE_ROOM];
         private int pick;
 
         /** Hands are numbered by how many WATCHES they have, then as rows in rising order. */
@@ -1809,7 +1807,7 @@ public final class KeyKeepers {
                     for (int before = 0; before < 2; before++) {
                         boolean barred = judge.isBarred(prison, law, p, watch, before);
                         int paid = barred ? NONE : judge.costOf(prison, law, p, watch, before);
-                        price[priceAt(p, watch, before)] = paid;
+                        price[(watch * 2 + before) * PEOPLE_ROOM + p] = paid;
                     }
                 }
             }
@@ -1826,12 +1824,14 @@ public final class KeyKeepers {
         /** The cost, how many and whom to pick first, from the WATCH on that comes behind these shares. */
         private void weigh(Prison prison, int held, int hand, int latest) {
             int watch = hand == NONE ? WATCHES - 1 : sizes[hand];
+            int pricesAt = watch * 2 * PEOPLE_ROOM;
+            int mostTimes = prison.terms[MOST];
             cost = FAR;
             many = 0;
             pick = 0;
             for (int p = 0; p < prison.people; p++) {
-                int paid = price[priceAt(p, watch, p == latest ? 1 : 0)];
-                if (paid != NONE && (held >> 3 * p & 7) < prison.terms[MOST]) {
+                int paid = price[p == latest ? pricesAt + PEOPLE_ROOM + p : pricesAt + p];
+                if (paid != NONE && (held >> 3 * p & 7) < mostTimes) {
                     int total = hand == NONE ? paid : paid + leastBehind[hand * PEOPLE_ROOM + p];
                     many += hand == NONE ? 1 : waysBehind[hand * PEOPLE_ROOM + p];
                     if (total < cost) {
@@ -1867,19 +1867,17 @@ public final class KeyKeepers {
         private static int oneShare(int p) {
             return 1 << 3 * p;
         }
-
-        private static int priceAt(int p, int watch, int before) {
-            return (p * WATCHES + watch) * 2 + before;
-        }
     }
 
     /** WHO was out, whom to count NEXT, and VOTES counted again. */
     private static final class Counting {
+        private static final int ALIKE_SPAN = PEOPLE_ROOM + 1;
+
         final int[] set = new int[1 << PEOPLE_ROOM];
         int sets;
         int bestGroup;
         int bestLeft;
-        private final int[] alike = new int[PEOPLE_ROOM + 1];
+        private final int[] alike = new int[(1 << PEOPLE_ROOM) * ALIKE_SPAN];
         private final int[] sidesAt = new int[PLACE_ROOM];
 
         void gather(Prison prison) {
@@ -1892,11 +1890,15 @@ public final class KeyKeepers {
             }
         }
 
-        void choose(int everybody) {
+        void choose(Prison prison) {
+            spreadSets(prison);
             bestGroup = NONE;
             bestLeft = sets + 1;
-            for (int group = 1; group <= everybody; group++) {
-                int left = mostAlike(group);
+            for (int group = 1; group <= prison.everybody() && group < set.length; group++) {
+                int left = 0;
+                for (int inside = 0; inside <= prison.people; inside++) {
+                    left = Math.max(left, alike[group * ALIKE_SPAN + inside]);
+                }
                 if (left < bestLeft) {
                     bestLeft = left;
                     bestGroup = group;
@@ -1935,20 +1937,34 @@ public final class KeyKeepers {
             return true;
         }
 
-        /** Stops as soon as the GROUP can't be better than the best one. */
-        private int mostAlike(int group) {
-            int most = 0;
+        /**
+         * How many sets have so many inside, for all GROUPS at once: at first each set stands by itself, by who is
+         * inside; then, PRISONER by PRISONER, who is inside gives way to who is in the GROUP. (All GROUPS by all sets
+         * would be some six times as long.)
+         */
+        private void spreadSets(Prison prison) {
             for (int i = 0; i < alike.length; i++) {
                 alike[i] = 0;
             }
-            for (int i = 0; i < sets && most < bestLeft; i++) {
-                int inside = Integer.bitCount(group & ~set[i]);
-                if (inside < alike.length) {
-                    alike[inside]++;
-                    most = Math.max(most, alike[inside]);
+            for (int i = 0; i < sets; i++) {
+                alike[(prison.everybody() & ~set[i]) * ALIKE_SPAN] = 1;
+            }
+            for (int p = 0; p < prison.people; p++) {
+                for (int group = 0; group <= prison.everybody(); group++) {
+                    if (bitOf(group, p) == 0) {
+                        spreadOne(group * ALIKE_SPAN, withBit(group, p, 1) * ALIKE_SPAN, p + 1);
+                    }
                 }
             }
-            return most;
+        }
+
+        /** From those without and those with one: a GROUP without that one counts both alike, one with that one does not. */
+        private void spreadOne(int without, int with, int most) {
+            for (int inside = most; inside >= 0; inside--) {
+                int outOnes = alike[without + inside];
+                alike[without + inside] = outOnes + alike[with + inside];
+                alike[with + inside] = inside > 0 ? outOnes + alike[with + inside - 1] : outOnes;
+            }
         }
     }
 

@@ -257,7 +257,17 @@ public final class PromiseTests {
         lawFault("costs -1", 6);
         lawFault("costs 1 + + 2", 10);
         lawFault("costs 1\t", 7);
-        lawFault("costs place 1", 6);
+        for (String word : "place bread inside done found holds by of to or and not if times costs go".split(" ")) {
+            lawFault("costs " + word, 6);
+        }
+        for (String word : "person years want keys watch before others hour odds mood".split(" ")) {
+            lawFault("costs " + word, -1);
+            lawFault("costs " + word + "s", 6);
+        }
+        lawFault(many(";", 400), 0);
+        lawFault("bars" + many(";", 396), 5);
+        lawFault("costs " + many(" ", 394), 400);
+        lawFault("costs " + many("9", 394), 6);
         lawFault("bars", -1);
         lawFault("bars if 1", 9);
         lawFault("bars if 1 = 2 = 3", 14);
@@ -301,7 +311,13 @@ public final class PromiseTests {
         ordersFault("wait if holds 7 12 = 1", 16);
         ordersFault("wait if holds 8 1 = 1", 14);
         ordersFault("wait if holds 1 = 1", 16);
-        ordersFault("wait if years = 1", 8);
+        for (String word : "person years want keys watch before others odds mood by wait".split(" ")) {
+            ordersFault("wait if " + word + " = 1", 8);
+        }
+        for (String word : "hour bread inside done found".split(" ")) {
+            ordersFault("wait if " + word + " = 1", -1);
+        }
+        ordersFault(many("(", 400), 0);
         ordersFault("go 1", 4);
         ordersFault("go by 1", 3);
         ordersFault("go 1 by", 7);
@@ -458,6 +474,10 @@ public final class PromiseTests {
         due("and ahead of or", x.asks(0, 0, 0), 1);
         due("not ahead of and", x.asks(0, 4, 0), 12);
         due("brackets", x.asks(0, 5, 0), 1);
+        x = under("costs 1 if not not not 1 = 2; gains 1 if not not not not 1 = 2; fines 1 if not not not not not 1 = 2");
+        due("three times not", x.asks(0, 0, 0), 1);
+        due("four times not", x.asks(0, 4, 0), 12);
+        due("five times not", x.asks(0, 5, 0), 1);
     }
 
     private static void goings() {
@@ -530,6 +550,7 @@ public final class PromiseTests {
         for (int i = 0; i < 16; i++) due("undo()", x.undo(), 2);
         due("undo() 17", x.undo(), -3);
         due("bread", x.count(13), 14 + 24);
+        undoOfMany();
         x.inspect();
         due("prisoner() REFUSED", x.prisoner(0, 0, 0), -1);
         due("key() REFUSED", x.key(0, 0, 5), -1);
@@ -549,6 +570,40 @@ public final class PromiseTests {
         x.inspect();
         x.terms(3, 1);
         due("behind terms()", x.undo(), -3);
+    }
+
+    /** More than are kept, of each kind and by each prisoner, so that what is dropped is the oldest, wholly. */
+    private static void undoOfMany() {
+        KeyKeepers x = new KeyKeepers();
+        x.door(1, 2);
+        x.door(1, 3);
+        for (int p = 0; p < 3; p++) {
+            x.prisoner(1, 1, 1);
+            x.key(p, 1, 1);
+        }
+        x.key(0, 0, 1);
+        for (int p = 0; p < 3; p++) x.trust(p, (p + 1) % 3, 1);
+        for (int i = 0; i < 7; i++) {
+            due("give", x.give(0, i % 3, (i + 1) % 3), 0);
+            due("go", x.go((i + 2) % 3, 1), 3);
+            due("go", x.go((i + 2) % 3, 1), 1);
+        }
+        due("count(5)", x.count(5), 16);
+        for (int turn = 0; turn < 2; turn++) {
+            due("orders() that can't be", orders(x, "inspect times 20; go 0 by 1; go 1 by 1; go 2 by 1; go 2 by 0"), -3);
+            due("stopped()", x.stopped(), 4);
+        }
+        for (int i = 6; i >= 2; i--) {
+            due("undo()", x.undo(), 0);
+            due("out", x.of((i + 2) % 3, 2), 3);
+            due("undo()", x.undo(), 0);
+            due("in", x.of((i + 2) % 3, 2), 1);
+            due("undo()", x.undo(), 1);
+            due("key of the giver", x.of(i % 3, 3), 3);
+            due("key of the other", x.of((i + 1) % 3, 3), 2);
+        }
+        due("undo()", x.undo(), 0);
+        due("undo()", x.undo(), -3);
     }
 
     private static void breadIsCapped() {
@@ -699,6 +754,37 @@ public final class PromiseTests {
         due("in rounds: 2, then 1, then 0, then nobody", x.rests(1), 4);
         x = under("fines 1; gains 0; gains 9 if others = person");
         due("by numbers, not all at once: 0, then 1, then 2; 0, 1 and 2 again are not so", x.rests(0), -1);
+        longRests();
+    }
+
+    /** Bits 0 .. 7 of each: does one stay out while so many others do. */
+    private static KeyKeepers stayers(int[] when) {
+        KeyKeepers x = new KeyKeepers();
+        for (int bits : when) {
+            int years = bits & 63;
+            due("prisoner", x.prisoner(years == 0 ? 64 : years, bits >> 6, 1) >= 0 ? 1 : 0, 1);
+        }
+        due("law()", law(x, "fines 1; gains years/1%2 if others=0; gains years/2%2 if others=1; gains years/4%2 if others=2;"
+            + "gains years/8%2 if others=3; gains years/16%2 if others=4; gains years/32%2 if others=5;"
+            + "gains want/1%2 if others=6; gains want/2%2 if others=7"), 0);
+        x.force(0);
+        return x;
+    }
+
+    private static void longRests() {
+        int[] fifty = {105, 17, 231, 202, 109, 85, 105, 76};
+        int[] fiftyOne = {177, 165, 53, 165, 180, 92, 159, 44};
+        int[] another = {165, 53, 165, 52, 200, 236, 183, 84};
+        due("in 50 rounds", stayers(fifty).rests(1), 50);
+        due("in 50 rounds", stayers(another).rests(1), 50);
+        due("not in 50", stayers(fiftyOne).rests(1), -1);
+        due("not in 50", stayers(fiftyOne).rests(0), -1);
+        KeyKeepers x = stayers(fifty);
+        for (int p = 0; p < 8; p++) {
+            int others = Integer.bitCount(x.rests(0) & ~(1 << p));
+            due("at rest", fifty[p] >> others & 1, x.rests(0) >> p & 1);
+            for (int k = 0; k < 8; k++) due("asks(" + p + ", 6, " + k + ")", x.asks(p, 6, k), fifty[p] >> k & 1);
+        }
     }
 
     private static void keepers() {
@@ -963,15 +1049,45 @@ public final class PromiseTests {
         due("another prisoner begins anew", x.prisoner(2, 2, 2), 3);
         for (int k = 3; k < 6; k++) due("of(3, " + k + ")", x.of(3, k), 0);
         due("another law", law(x, "costs 6"), 1);
-        due("another door", x.door(8, 9), 3);
+        due("another door", x.door(0, 9), 3);
         due("is not walled up", x.wall(3, 0), 0);
         due("back(1)", x.back(1), 0);
+        due("of(3, 0)", x.of(3, 0), 9);
+        due("of(3, 1)", x.of(3, 1), 9);
+        due("of(3, 2)", x.of(3, 2), 9);
+        x.key(2, 3, 1);
+        due("door 3 of image 1", x.go(2, 3), 4);
         due("law 1 of image 1", x.asks(0, 0, 0), 4);
         due("of(3, 5)", x.of(3, 5), 1);
         due("of(3, 3)", x.of(3, 3), 1);
         due("back(0) again", x.back(0), 0);
         due("law", x.asks(0, 0, 0), 3);
         due("count(1)", x.count(1), 3);
+        emptyImage();
+    }
+
+    private static void emptyImage() {
+        KeyKeepers x = new KeyKeepers();
+        x.image(0);
+        x.door(0, 4);
+        x.prisoner(3, 2, 4);
+        x.key(0, 0, 1);
+        law(x, "costs 44");
+        x.force(0);
+        x.image(1);
+        due("back(0)", x.back(0), 0);
+        due("way(0)", x.way(0), -1);
+        due("voted(0)", x.voted(0), -1);
+        x.door(5, 6);
+        x.prisoner(8, 7, 5);
+        law(x, "costs 55");
+        due("back(1)", x.back(1), 0);
+        due("of(0, 0)", x.of(0, 0), 3);
+        due("of(0, 1)", x.of(0, 1), 2);
+        due("asks(0, 0, 0)", x.asks(0, 0, 0), 44);
+        due("go(0, 0)", x.go(0, 0), 0);
+        due("back(1)", x.back(1), 0);
+        due("of(0, 2)", x.of(0, 2), 4);
     }
 
     private static void countsAndStatus() {
