@@ -474,6 +474,10 @@ public final class PromiseTests {
         due("and ahead of or", x.asks(0, 0, 0), 1);
         due("not ahead of and", x.asks(0, 4, 0), 12);
         due("brackets", x.asks(0, 5, 0), 1);
+        String deep = many("1+1*[", 8) + "1+1*1" + many("]", 8);
+        x = under("costs " + deep + "; bars if 10 = " + deep);
+        due("as deep as can be", x.asks(0, 0, 0), 10);
+        due("as deep as can be", x.asks(0, 2, 0), 1);
         x = under("costs 1 if not not not 1 = 2; gains 1 if not not not not 1 = 2; fines 1 if not not not not not 1 = 2");
         due("three times not", x.asks(0, 0, 0), 1);
         due("four times not", x.asks(0, 4, 0), 12);
