@@ -1239,11 +1239,7 @@ public final class ModelRuns {
         void feedText(String t) {
             String u = t.length() > 400 ? t.substring(0, 400) : t;
             for (int i = 0; i < u.length(); i += 20) {
-                int[] five = new int[5];
-                for (int k = 0; k < 20; k++) {
-                    int c = i + k < u.length() ? u.charAt(i + k) & 255 : 32;
-                    five[k / 4] = five[k / 4] << 8 | c;
-                }
+                int[] five = Texts.fives(u, i);
                 same("feed", x.feed(five[0], five[1], five[2], five[3], five[4]), m.feed(five));
             }
             same("end(" + u.length() + ")", x.end(u.length()), m.end(u.length()));

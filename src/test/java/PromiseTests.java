@@ -12,18 +12,8 @@ public final class PromiseTests {
         }
     }
 
-    /** Puts a text on the TAPE, of which it becomes the whole. */
     private static void put(KeyKeepers x, String text) {
-        x.end(0);
-        for (int i = 0; i < text.length(); i += 20) {
-            int[] five = new int[5];
-            for (int k = 0; k < 20; k++) {
-                int c = i + k < text.length() ? text.charAt(i + k) & 255 : 32;
-                five[k / 4] = five[k / 4] << 8 | c;
-            }
-            x.feed(five[0], five[1], five[2], five[3], five[4]);
-        }
-        due("end of a text", x.end(text.length()), text.length());
+        due("end of a text", Texts.put(x, text), text.length());
     }
 
     private static int law(KeyKeepers x, String text) {
@@ -47,10 +37,6 @@ public final class PromiseTests {
         int answer = orders(x, text);
         due("orders() of '" + text + "' can't be read", answer == -6 ? 1 : 0, at == -1 ? 0 : 1);
         due("fault() of '" + text + "'", x.fault(), at);
-    }
-
-    private static String many(String what, int n) {
-        return what.repeat(Math.max(0, n));
     }
 
     /** Places 0 - 1 - 2 - 3 by doors 0, 1, 2 and prisoners 0, 1 in 2, 2 in 3. */
@@ -210,7 +196,7 @@ public final class PromiseTests {
         promise = 13;
         due("rats() stay", x.rats(), 1);
         promise = 12;
-        put(x, many("\1\1\1", 6) + "\1\1");
+        put(x, Texts.many("\1\1\1", 6) + "\1\1");
         due("row() with room for five", x.row(), 5);
         promise = 13;
         due("rats()", x.rats(), 2);
@@ -264,10 +250,10 @@ public final class PromiseTests {
             lawFault("costs " + word, -1);
             lawFault("costs " + word + "s", 6);
         }
-        lawFault(many(";", 400), 0);
-        lawFault("bars" + many(";", 396), 5);
-        lawFault("costs " + many(" ", 394), 400);
-        lawFault("costs " + many("9", 394), 6);
+        lawFault(Texts.many(";", 400), 0);
+        lawFault("bars" + Texts.many(";", 396), 5);
+        lawFault("costs " + Texts.many(" ", 394), 400);
+        lawFault("costs " + Texts.many("9", 394), 6);
         lawFault("bars", -1);
         lawFault("bars if 1", 9);
         lawFault("bars if 1 = 2 = 3", 14);
@@ -280,20 +266,20 @@ public final class PromiseTests {
         lawFault("bars if 1 = 2 if 1 = 2", 14);
         lawFault("inspect", 0);
         lawFault("bars if 1 = 2 xor 1 = 2", 14);
-        lawFault(many("bars;", 11) + "bars", -1);
-        lawFault(many("bars;", 12) + "bars", 60);
-        lawFault(many("bars;", 12), 60);
-        lawFault(many("bars;", 12) + "  ?", 62);
-        lawFault("costs " + many("1+", 49) + "1", -1);
-        lawFault("costs " + many("1+", 50) + "1", 106);
-        lawFault("costs " + many("1+", 49) + "want;bars if [1]=2", 118);
-        lawFault("costs " + many("[", 8) + "1" + many("]", 8), -1);
-        lawFault("costs " + many("[", 9) + "1" + many("]", 9), 14);
-        lawFault("bars if " + many("(", 5) + many("[", 3) + "1" + many("]", 3) + "=1" + many(")", 5), -1);
-        lawFault("bars if " + many("(", 5) + many("[", 4) + "1" + many("]", 4) + "=1" + many(")", 5), 16);
-        lawFault("bars if " + many("(", 9) + "1=1" + many(")", 9), 16);
-        lawFault("bars if " + many("(1=1)or", 20) + "(1=1)", -1);
-        lawFault("bars if " + many("not ", 95) + "1 = 1", -1);
+        lawFault(Texts.many("bars;", 11) + "bars", -1);
+        lawFault(Texts.many("bars;", 12) + "bars", 60);
+        lawFault(Texts.many("bars;", 12), 60);
+        lawFault(Texts.many("bars;", 12) + "  ?", 62);
+        lawFault("costs " + Texts.many("1+", 49) + "1", -1);
+        lawFault("costs " + Texts.many("1+", 50) + "1", 106);
+        lawFault("costs " + Texts.many("1+", 49) + "want;bars if [1]=2", 118);
+        lawFault("costs " + Texts.many("[", 8) + "1" + Texts.many("]", 8), -1);
+        lawFault("costs " + Texts.many("[", 9) + "1" + Texts.many("]", 9), 14);
+        lawFault("bars if " + Texts.many("(", 5) + Texts.many("[", 3) + "1" + Texts.many("]", 3) + "=1" + Texts.many(")", 5), -1);
+        lawFault("bars if " + Texts.many("(", 5) + Texts.many("[", 4) + "1" + Texts.many("]", 4) + "=1" + Texts.many(")", 5), 16);
+        lawFault("bars if " + Texts.many("(", 9) + "1=1" + Texts.many(")", 9), 16);
+        lawFault("bars if " + Texts.many("(1=1)or", 20) + "(1=1)", -1);
+        lawFault("bars if " + Texts.many("not ", 95) + "1 = 1", -1);
     }
 
     private static void orderTexts() {
@@ -317,7 +303,7 @@ public final class PromiseTests {
         for (String word : "hour bread inside done found".split(" ")) {
             ordersFault("wait if " + word + " = 1", -1);
         }
-        ordersFault(many("(", 400), 0);
+        ordersFault(Texts.many("(", 400), 0);
         ordersFault("go 1", 4);
         ordersFault("go by 1", 3);
         ordersFault("go 1 by", 7);
@@ -328,12 +314,12 @@ public final class PromiseTests {
         ordersFault("bars", 0);
         ordersFault("", 0);
         ordersFault("   ", 3);
-        ordersFault(many("wait;", 11) + "wait", -1);
-        ordersFault(many("wait;", 12) + "wait", 60);
+        ordersFault(Texts.many("wait;", 11) + "wait", -1);
+        ordersFault(Texts.many("wait;", 12) + "wait", 60);
         // P, D and TIMES are no PARTS: fifty words with what goes with them
-        ordersFault("wait times 2 if 1=" + many("place 1+", 45) + "1", -1);
-        ordersFault("wait if 2=" + many("done+", 48) + "holds 1 2", -1);
-        ordersFault("wait if 2=" + many("done+", 49) + "holds 1 2", 255);
+        ordersFault("wait times 2 if 1=" + Texts.many("place 1+", 45) + "1", -1);
+        ordersFault("wait if 2=" + Texts.many("done+", 48) + "holds 1 2", -1);
+        ordersFault("wait if 2=" + Texts.many("done+", 49) + "holds 1 2", 255);
     }
 
     private static void runOrders() {
@@ -474,7 +460,7 @@ public final class PromiseTests {
         due("and ahead of or", x.asks(0, 0, 0), 1);
         due("not ahead of and", x.asks(0, 4, 0), 12);
         due("brackets", x.asks(0, 5, 0), 1);
-        String deep = many("1+1*[", 8) + "1+1*1" + many("]", 8);
+        String deep = Texts.many("1+1*[", 8) + "1+1*1" + Texts.many("]", 8);
         x = under("costs " + deep + "; bars if 10 = " + deep);
         due("as deep as can be", x.asks(0, 0, 0), 10);
         due("as deep as can be", x.asks(0, 2, 0), 1);
@@ -554,7 +540,6 @@ public final class PromiseTests {
         for (int i = 0; i < 16; i++) due("undo()", x.undo(), 2);
         due("undo() 17", x.undo(), -3);
         due("bread", x.count(13), 14 + 24);
-        undoOfMany();
         x.inspect();
         due("prisoner() REFUSED", x.prisoner(0, 0, 0), -1);
         due("key() REFUSED", x.key(0, 0, 5), -1);
@@ -574,64 +559,6 @@ public final class PromiseTests {
         x.inspect();
         x.terms(3, 1);
         due("behind terms()", x.undo(), -3);
-    }
-
-    /** More than are kept, of each kind and by each prisoner, so that what is dropped is the oldest, wholly. */
-    private static void undoOfMany() {
-        KeyKeepers x = new KeyKeepers();
-        x.door(1, 2);
-        x.door(1, 3);
-        for (int p = 0; p < 3; p++) {
-            x.prisoner(1, 1, 1);
-            x.key(p, 1, 1);
-        }
-        x.key(0, 0, 1);
-        for (int p = 0; p < 3; p++) x.trust(p, (p + 1) % 3, 1);
-        for (int i = 0; i < 7; i++) {
-            due("give", x.give(0, i % 3, (i + 1) % 3), 0);
-            due("go", x.go((i + 2) % 3, 1), 3);
-            due("go", x.go((i + 2) % 3, 1), 1);
-        }
-        due("count(5)", x.count(5), 16);
-        for (int turn = 0; turn < 2; turn++) {
-            due("orders() that can't be", orders(x, "inspect times 20; go 0 by 1; go 1 by 1; go 2 by 1; go 2 by 0"), -3);
-            due("stopped()", x.stopped(), 4);
-        }
-        for (int i = 6; i >= 2; i--) {
-            due("undo()", x.undo(), 0);
-            due("out", x.of((i + 2) % 3, 2), 3);
-            due("undo()", x.undo(), 0);
-            due("in", x.of((i + 2) % 3, 2), 1);
-            due("undo()", x.undo(), 1);
-            due("key of the giver", x.of(i % 3, 3), 3);
-            due("key of the other", x.of((i + 1) % 3, 3), 2);
-        }
-        due("undo()", x.undo(), 0);
-        due("undo()", x.undo(), -3);
-    }
-
-    private static void breadIsCapped() {
-        promise = 22;
-        KeyKeepers x = new KeyKeepers();
-        for (int p = 0; p < 8; p++) x.prisoner(1, 1, 1);
-        String all = many("inspect times 20;", 11) + "inspect times 20";
-        int bread = 0;
-        for (int i = 0; i < 26; i++) {
-            due("orders()", orders(x, all), 240);
-            bread = Math.min(99999, bread + 240 * 16);
-            due("bread", x.count(13), bread);
-        }
-        due("bread", x.count(13), 99840);
-        orders(x, "inspect times 9");
-        due("inspect()", x.inspect(), 8);
-        due("bread", x.count(13), 99999);
-        due("undo()", x.undo(), 2);
-        due("bread", x.count(13), 99984);
-        promise = 39;
-        x.terms(2, 10);
-        x.door(2, 3);
-        due("nights(1, 5)", x.nights(1, 5), 5);
-        due("drawn(0, 1)", x.drawn(0, 1), 15);
     }
 
     private static void waysOut() {
@@ -758,37 +685,6 @@ public final class PromiseTests {
         due("in rounds: 2, then 1, then 0, then nobody", x.rests(1), 4);
         x = under("fines 1; gains 0; gains 9 if others = person");
         due("by numbers, not all at once: 0, then 1, then 2; 0, 1 and 2 again are not so", x.rests(0), -1);
-        longRests();
-    }
-
-    /** Bits 0 .. 7 of each: does one stay out while so many others do. */
-    private static KeyKeepers stayers(int[] when) {
-        KeyKeepers x = new KeyKeepers();
-        for (int bits : when) {
-            int years = bits & 63;
-            due("prisoner", x.prisoner(years == 0 ? 64 : years, bits >> 6, 1) >= 0 ? 1 : 0, 1);
-        }
-        due("law()", law(x, "fines 1; gains years/1%2 if others=0; gains years/2%2 if others=1; gains years/4%2 if others=2;"
-            + "gains years/8%2 if others=3; gains years/16%2 if others=4; gains years/32%2 if others=5;"
-            + "gains want/1%2 if others=6; gains want/2%2 if others=7"), 0);
-        x.force(0);
-        return x;
-    }
-
-    private static void longRests() {
-        int[] fifty = {105, 17, 231, 202, 109, 85, 105, 76};
-        int[] fiftyOne = {177, 165, 53, 165, 180, 92, 159, 44};
-        int[] another = {165, 53, 165, 52, 200, 236, 183, 84};
-        due("in 50 rounds", stayers(fifty).rests(1), 50);
-        due("in 50 rounds", stayers(another).rests(1), 50);
-        due("not in 50", stayers(fiftyOne).rests(1), -1);
-        due("not in 50", stayers(fiftyOne).rests(0), -1);
-        KeyKeepers x = stayers(fifty);
-        for (int p = 0; p < 8; p++) {
-            int others = Integer.bitCount(x.rests(0) & ~(1 << p));
-            due("at rest", fifty[p] >> others & 1, x.rests(0) >> p & 1);
-            for (int k = 0; k < 8; k++) due("asks(" + p + ", 6, " + k + ")", x.asks(p, 6, k), fifty[p] >> k & 1);
-        }
     }
 
     private static void keepers() {
@@ -1172,7 +1068,6 @@ public final class PromiseTests {
         force();
         asks();
         goings();
-        breadIsCapped();
         waysOut();
         rotas();
         resting();
