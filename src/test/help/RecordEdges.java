@@ -150,6 +150,58 @@ final class RecordEdges {
         Edges.due("drawn(1, 0) WALLED up", x.drawn(1, 0), 1);
     }
 
+    /** The first seed of which the first night is PRISONER 0's and the second PRISONER 1's, if there is one DOOR. */
+    private static int firstThenSecond() {
+        for (int seed = 0; seed < 1000; seed++) {
+            long s = seed;
+            boolean good = true;
+            for (int draw = 1; draw <= 4; draw++) {
+                s = (s * 1103 + 12345) % 1000003;
+                if (draw == 1 && s % 2 != 0 || draw == 4 && s % 2 != 1) good = false;
+            }
+            if (good) return seed;
+        }
+        return -1;
+    }
+
+    @Edge(promise = 38, says = "one GOES there, if it can be")
+    static void trustHelpsWhereOneIsOnPaper() {
+        int seed = firstThenSecond();
+        KeyKeepers x = Texts.crowd(2, 1);
+        x.door(1, 2);
+        x.key(0, 0, 1);
+        x.trust(0, 1, 1);
+        x.nights(seed, 2);
+        Edges.due("drawn(0, 0): went with the KEY", x.drawn(0, 0), 2);
+        Edges.due("drawn(1, 0): the one with the KEY has gone", x.drawn(1, 0), 1);
+        x = new KeyKeepers();
+        x.prisoner(9, 4, 1);
+        x.prisoner(9, 4, 2);
+        x.door(1, 2);
+        x.key(0, 0, 1);
+        x.trust(0, 1, 1);
+        x.nights(seed, 2);
+        Edges.due("drawn(0, 0): came with the KEY", x.drawn(0, 0), 2);
+        Edges.due("drawn(1, 0): the one with the KEY has come", x.drawn(1, 0), 1);
+    }
+
+    @Edge(promise = 38, says = "on paper")
+    static void inspectedOnPaper() {
+        int seed = firstThenSecond();
+        KeyKeepers x = Texts.crowd(2, 1);
+        x.door(0, 1);
+        x.key(0, 0, 1);
+        x.key(1, 0, 1);
+        x.terms(2, 10);
+        Edges.fine(x, "nights, both go out one by one", x.nights(seed, 2), 2);
+        Edges.due("drawn(0, 1): 1 and 0 were inside", x.drawn(0, 1), 1);
+        x.go(0, 0);
+        Edges.fine(x, "nights, one comes in, then the other goes out", x.nights(seed, 2), 2);
+        Edges.due("drawn(0, 1): twice 2, then 1", x.drawn(0, 1), 5);
+        Edges.due("drawn(0, 0)", x.drawn(0, 0), 1);
+        Edges.due("drawn(1, 0)", x.drawn(1, 0), 0);
+    }
+
     @Edge(promise = 38, says = "on paper")
     static void allButPaperIsAsItWas() {
         KeyKeepers x = cells();
